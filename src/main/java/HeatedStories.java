@@ -243,10 +243,7 @@ public final class HeatedStories {
         if (!now.hasWord(story, word)) {
             return NO_SUCH;
         }
-        if (!isWithin(by, 1, MOST_HEATING)) {
-            return BAD_VALUE;
-        }
-        if (!isWithin(what, 0, 3)) {
+        if (!isWithin(by, 1, MOST_HEATING) || !isWithin(what, 0, 3)) {
             return BAD_VALUE;
         }
         int reactions = tryHeating(now.starts[story] + word, by);
@@ -312,11 +309,11 @@ public final class HeatedStories {
         }
         int lower = NONE;
         int higher = NONE;
-        int least = Integer.MAX_VALUE;
+        int least = 0;
         for (int one = 0; one < now.stories; one++) {
             for (int two = one + 1; two < now.stories; two++) {
                 int together = storyHeats[one] + storyHeats[two];
-                if (themes[one] == themes[two] && together < least) {
+                if (themes[one] == themes[two] && (lower == NONE || together < least)) {
                     least = together;
                     lower = one;
                     higher = two;
