@@ -16,6 +16,7 @@ public final class AnswersTest {
         criticalAmongHotWords();
         touchiest();
         coolestPair();
+        fullHouse();
         Check.end();
     }
 
@@ -53,6 +54,8 @@ public final class AnswersTest {
         Check.due("no story, no what", x.story(-1, 8), NO_SUCH);
         Check.due("the theme of one", x.story(0, 2), 0);
         Check.due("then the unlike letters of another", x.story(2, 6), 1);
+        x = Check.with("a1b2/c9");
+        Check.due("the hottest word is one of this story", x.story(0, 5), 1);
         x = Check.with("a1a/abba/abca");
         Check.due("heat is not read", x.story(0, 7), 1);
         Check.due("an even story", x.story(1, 7), 1);
@@ -84,6 +87,9 @@ public final class AnswersTest {
         Check.due("no family", x.count(3), 0);
         Check.due("splits so far", x.count(4), 1);
         Check.due("at most 6 changes", x.count(12), 6);
+        x = Check.with("a/a/b");
+        x.fuse(0, 1);
+        Check.due("the first story's generation", x.count(7), 1);
     }
 
     private static void letter() {
@@ -263,5 +269,45 @@ public final class AnswersTest {
         x = Check.with("a/b/c");
         Check.due("no pair", x.coolestPair(0), NONE);
         Check.due("no pair", x.coolestPair(1), NONE);
+    }
+
+    /** 12 stories and 150 words: the last ones are looked at, and nothing behind them. */
+    private static void fullHouse() {
+        String z = "zzzzzzzzzzzz";
+        HeatedStories x = Check.with("a" + z + "/b" + z + "/c" + z + "/d" + z);
+        Check.type(x, "e" + z + "/f" + z + "/g" + z + "/h" + z);
+        x.write();
+        Check.type(x, "ijklmnopqrst/jzzzzz/kzzzzz/ly7" + z + "zzzz" + "z19z18z17z17");
+        x.write();
+        Check.due("stories", x.count(0), 12);
+        Check.due("words", x.count(1), 150);
+        Check.due("the last word", x.word(11, 21, 1), 17);
+        Check.due("no word behind it", x.word(11, 22, 1), NO_SUCH);
+        Check.due("z", x.letter(25, 0), 8 * 12 + 5 + 5 + 20);
+        Check.due("stories with z", x.letter(25, 1), 11);
+        Check.due("stories of z", x.letter(25, 2), 11);
+        Check.due("heat of z", x.letter(25, 3), 71);
+        Check.due("pairs", x.sideBySide(25, 25, 0), 8 * 11 + 4 + 4 + 19);
+        Check.due("pairs at the end", x.sideBySide(24, 25, 1), 11);
+        Check.due("common", x.common(7, 11), 12);
+        Check.due("the lowest pair", x.coolestPair(1), 1);
+        Check.due("a wave at the end", x.ifHeated(11, 21, 4, 0), 4);
+        Check.due("no room", x.critical(11, 21), NONE);
+        Check.due("touchiest", x.touchiest(1, 0), 11);
+        Check.due("touchiest", x.touchiest(1, 1), 18);
+        Check.due("touchiest", x.touchiest(1, 2), 4);
+        Check.due("heated", x.heat(11, 18, 1), 4);
+        Check.due("fizzles", x.count(6), 4);
+        Check.due("the heat then", x.letter(25, 3), 3 + 3 + 3 + 3);
+        Check.due("days", x.pass(1), 5 + 1 + 1 + 1 + 1);
+        x.undo();
+        x.undo();
+        Check.due("burnt", x.burn(11), 22);
+        Check.due("no heat is left", x.letter(25, 3), 0);
+        Check.due("no y is left", x.letter(24, 0), 0);
+        Check.due("stories with z", x.letter(25, 1), 10);
+        Check.due("nothing is touchy", x.touchiest(19, 2), 0);
+        Check.due("the first word is touchiest", x.touchiest(20, 0), 0);
+        Check.due("room", x.critical(10, 5), 20);
     }
 }
