@@ -2,15 +2,38 @@
 final class Check {
     private static int calls = 0;
     private static int wrong = 0;
+    private static int callsBefore = 0;
+    private static String test = "";
 
     private Check() {
+    }
+
+    /** What is found wrong from now on is told with the name of the test. */
+    static void begin(String name) {
+        test = name;
+        callsBefore = calls;
+    }
+
+    static void endOfTest() {
+        if (calls == callsBefore) {
+            wrong++;
+            System.out.println(test + "nothing was tested");
+        }
+    }
+
+    static void same(String what, String got, String want) {
+        calls++;
+        if (!got.equals(want)) {
+            wrong++;
+            System.out.println(test + what + ": " + got + ", due is " + want);
+        }
     }
 
     static void due(String call, long got, long want) {
         calls++;
         if (got != want) {
             wrong++;
-            System.out.println(call + " answered " + got + ", due is " + want);
+            System.out.println(test + call + " answered " + got + ", due is " + want);
         }
     }
 
@@ -38,9 +61,16 @@ final class Check {
             String piece = text.substring(start, Math.min(start + 8, text.length()));
             if (reactor.put(coded(piece)) < 0) {
                 wrong++;
-                System.out.println("the pad refuses " + piece + " of " + text);
+                System.out.println(test + "the pad refuses " + piece + " of " + text);
             }
         }
+    }
+
+    /** The fault of a text in the pad of a new object. */
+    static int faultOf(String text) {
+        HeatedStories reactor = new HeatedStories();
+        type(reactor, text);
+        return reactor.fault();
     }
 
     static HeatedStories with(String text) {
@@ -48,7 +78,7 @@ final class Check {
         type(reactor, text);
         if (reactor.write() < 0) {
             wrong++;
-            System.out.println("cannot write " + text);
+            System.out.println(test + "cannot write " + text);
         }
         return reactor;
     }
@@ -56,9 +86,11 @@ final class Check {
     /** All stories as the pad would have them, but with any heat. */
     static String shown(HeatedStories reactor) {
         StringBuilder text = new StringBuilder();
-        for (int story = 0; story < reactor.count(0); story++) {
+        int stories = reactor.count(0);
+        for (int story = 0; story < stories; story++) {
             text.append(story > 0 ? "/" : "");
-            for (int word = 0; word < reactor.story(story, 0); word++) {
+            int words = reactor.story(story, 0);
+            for (int word = 0; word < words; word++) {
                 text.append((char) ('a' + reactor.word(story, word, 0)));
                 int heat = reactor.word(story, word, 1);
                 text.append(heat > 0 ? String.valueOf(heat) : "");
@@ -68,11 +100,6 @@ final class Check {
     }
 
     static void shows(String when, HeatedStories reactor, String want) {
-        calls++;
-        String got = shown(reactor);
-        if (!got.equals(want)) {
-            wrong++;
-            System.out.println(when + ": the stories are " + got + ", due is " + want);
-        }
+        same(when + ": the stories are", shown(reactor), want);
     }
 }
