@@ -416,7 +416,11 @@ public final class BoundariesOfAnswersTest {
         HeatedStories x = Check.with("a/z/bcd/ebf");
         Check.due("one word each", x.common(0, 1), 0);
         Check.due("more words", x.common(0, 2), 0);
+        Check.due("more words the other way round", x.common(2, 1), 0);
         Check.due("but a letter in common", x.common(2, 3), 1);
+        x = Check.with("abc/zzzc/c");
+        Check.due("a story and itself", x.common(0, 0), 3);
+        Check.due("what was found before does not count", x.common(2, 1), 1);
     }
 
     @Says(in = "Promise 14", words = "NO_SUCH if there is no such story.")

@@ -114,6 +114,10 @@ public final class BoundariesOfChangesTest {
         Check.due("families", x.count(3), 4);
         Check.due("the last family", x.story(3, 3), 3);
         Check.due("the pad is empty", x.wipe(), 0);
+        x.burn(3);
+        Check.type(x, "e");
+        x.write();
+        Check.shows("without the heat of a word that is gone", x, "a/b1/c/e");
         x = new HeatedStories();
         Check.type(x, World.sixty());
         x.write();
@@ -324,7 +328,16 @@ public final class BoundariesOfChangesTest {
             Check.due("fuse", x.fuse(pairs[at][0], pairs[at][1]), 0);
             Check.shows("fuse(" + pairs[at][0] + ", " + pairs[at][1] + ")", x, due[at]);
         }
-        HeatedStories x = Check.with("a/a");
+        HeatedStories x = Check.with("a1b2/c3d4/c5d6/e7f8");
+        x.fuse(1, 2);
+        Check.shows("all heat goes with its word", x, "a1b2/c3d7c8d6/e7f8");
+        x.undo();
+        x.fuse(2, 1);
+        Check.shows("all heat goes with its word", x, "a1b2/c5d9c6d4/e7f8");
+        x = Check.with("a1b2/c3d4/a5b6/e7f8");
+        x.fuse(0, 2);
+        Check.shows("all heat goes with its word", x, "a1b5a8b6/c3d4/e7f8");
+        x = Check.with("a/a");
         x.fuse(1, 0);
         Check.shows("one story is left", x, "a3a3");
         Check.due("no story behind it", x.story(1, 0), NO_SUCH);

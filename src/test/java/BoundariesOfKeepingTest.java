@@ -168,6 +168,16 @@ public final class BoundariesOfKeepingTest {
         Check.due("the slot keeps what was saved behind the change", x.restore(1), 5);
         Check.shows("the slot", x, "a/b/c/d/e");
         Check.due("the slot's settings", x.count(8) + x.count(9) + x.count(10), 30);
+        Boundary.isAChange(() -> fizzled(), "a fizzle", y -> y.heat(0, 1, 30), 1);
+        Boundary.isAChange(() -> fizzled(), "a restore behind a fizzle", y -> y.restore(0), 12);
+    }
+
+    private static HeatedStories fizzled() {
+        HeatedStories x = Check.with("abc/d/e/f/g/h/i/j/k/l/m/n");
+        x.save(0);
+        x.heat(0, 0, 20);
+        x.heat(0, 1, 17);
+        return x;
     }
 
     @Says(in = "Promise 22", words = "A history of at most 6 states is kept")

@@ -267,6 +267,12 @@ public final class BoundariesOfTermsTest {
         x.write();
         Check.due("a family is not given twice", x.story(0, 3), 3);
         Check.due("its generation", x.story(0, 4), 0);
+        x = Check.with("ab20");
+        x.burn(1);
+        Check.type(x, "c");
+        x.write();
+        Check.due("the family behind a story of generation 1", x.story(1, 3), 1);
+        Check.due("the generation behind a story of generation 1", x.story(1, 4), 0);
     }
 
     @Says(in = "Terms", words = "The theme of a story is the word that stands in it most often, of several the one that is first in the alphabet.")
@@ -444,6 +450,22 @@ public final class BoundariesOfTermsTest {
         HeatedStories x = Check.with("ab17c17d17e16");
         Check.due("a chain", x.heat(0, 1, 3), 3);
         Check.shows("a chain that ends below LIMIT", x, "a3/b3/c3/de19");
+        x = new HeatedStories();
+        x.set(LIMIT, 12);
+        x.set(SPARK, 4);
+        Check.type(x, "y11x11x11y");
+        x.write();
+        // y15/x x15 y, then the first y boils, then the second x splits
+        Check.due("a chain that goes back", x.heat(0, 1, 1), 3);
+        Check.shows("a chain that goes back", x, "y/x4/xy4");
+        x = new HeatedStories();
+        x.set(LIMIT, 12);
+        x.set(SPARK, 4);
+        Check.type(x, "p/p/p/p/p/p/p/p/p/p/p/x11x11x11x8x");
+        x.write();
+        // 11 15 0 12 0, then 15 0 4 12 0, then 0 4 4 12 0, then 0 4 8 0 4
+        Check.due("a chain that goes back twice, and on", x.heat(11, 2, 1), 4);
+        Check.shows("a chain that goes back twice, and on", x, "p/p/p/p/p/p/p/p/p/p/p/xx4x8xx4");
         x = World.longest();
         x.set(LIMIT, 10);
         x.set(SPARK, 4);
